@@ -30,6 +30,11 @@ public final class PromisesTest {
         count();
         refusedChangesNothing();
         behindTheLastYear();
+        lastRuleAndProject();
+        lastBid();
+        lastPermit();
+        lastCut();
+        lastWorks();
         CHECKS.close();
     }
 
@@ -771,5 +776,98 @@ public final class PromisesTest {
         due("now 20: works", x.works(), 2);
         due("now 20: rule", x.rule(19, 1000, 0), true);
         due("now 20: cut", x.cut(0, 1, 1), 1);
+    }
+
+    private static void lastRuleAndProject() {
+        FoulRights x = withWorks(1);
+        for (int i = 0; i < 29; i++) {
+            x.rule(0, 0, 0);
+        }
+        due("the 30th rule", x.rule(0, 200010, share(11, 12, 13)), true);
+        int[] want = {200, 11, 12, 13};
+        for (int what = 0; what < 4; what++) {
+            due("the 30th rule " + what, x.ruled(0, what), want[what]);
+        }
+        due("the 30th rule falls", x.ruled(1, 0), 180);
+        for (int i = 0; i < 20; i++) {
+            x.offset(0, 2);
+        }
+        due("the 20th project", x.falses(19), 0);
+        due("the 20th project is false once", x.falses(19), -1);
+        due("its permits", x.permit(39, 0), 2);
+        due("not another's", x.permit(37, 0), 0);
+    }
+
+    private static void lastBid() {
+        FoulRights x = withWorks(10);
+        x.rule(0, 400000, 0);
+        x.issue();
+        for (int i = 0; i < 39; i++) {
+            x.bid(i % 9, 10, 600 - i);
+        }
+        due("the 40th bid", x.bid(9, 10, 500), 40);
+        due("the 40th bid's price", x.auction(), 500);
+        due("the 40th bid gets", x.told(9, 2), 10);
+        due("the 40th bid pays", x.told(9, 0), -5000);
+        due("the 40th bid's permits are last", x.permit(390, 1), 9);
+        due("all pay it", x.count(8), 400 * 500);
+        due("none is left", x.count(7), 0);
+    }
+
+    private static void lastPermit() {
+        FoulRights x = withWorks(10);
+        x.rule(0, 399000, 0);
+        for (int i = 0; i < 10; i++) {
+            x.issue();
+            x.end();
+        }
+        x.rule(10, 0, 0);
+        due("3990 and 10", x.offset(9, 10), 0);
+        int[] held = {0, 9, 10, -1, 0, 0};
+        for (int what = 0; what < 6; what++) {
+            due("the 4000th permit " + what, x.permit(3999, what), held[what]);
+        }
+        x.trade(9, 8, 10, 0);
+        x.end();
+        int[] used = {1, 8, 10, 10, 0, 1};
+        for (int what = 0; what < 6; what++) {
+            due("the 4000th permit, used " + what, x.permit(3999, what), used[what]);
+        }
+    }
+
+    private static void lastCut() {
+        FoulRights x = withWorks(10);
+        for (int w = 0; w < 10; w++) {
+            for (int i = 0; i < 4; i++) {
+                x.cut(w, 10, 7);
+            }
+        }
+        for (int w = 0; w < 10; w++) {
+            due("cuts of all of " + w, x.cuts(400, w), 40);
+        }
+        due("the last cut", x.cuts(391, 9), 31);
+        due("the last cut", x.least(400), 2800);
+        due("the last works has 4", x.cut(9, 1, 1), -1);
+    }
+
+    private static void lastWorks() {
+        FoulRights x = withWorks(10);
+        x.rule(0, 100000, share(100, 3, 0));
+        readAll(x, 9, 0, 0);
+        x.offset(9, 5);
+        x.end();
+        readAll(x, 9, 0, 99);
+        x.issue();
+        due("the tenth is given the most", x.told(9, 2), 5 + 53);
+        due("the tenth's are last", x.permit(104, 1), 9);
+        x.trade(9, 8, 1, 7);
+        x.cancel(9, 1);
+        x.end();
+        due("the tenth's coins", x.told(9, 0), 7 - 3 * (436 - 56));
+        due("the tenth's debt", x.told(9, 1), 436 - 56);
+        due("the tenth used", x.told(9, 3), 56);
+        due("the tenth's fines", x.told(9, 4), 3 * (436 - 56));
+        due("the tenth has a false project", x.falses(0), 5);
+        due("the tenth's debt", x.told(9, 1), 436 - 56 + 4);
     }
 }
