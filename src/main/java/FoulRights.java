@@ -308,7 +308,7 @@ public final class FoulRights {
 
     /** Numbers in a row. Arrays are indexed here alone, so that each index is tested before it is used. */
     private static final class Row {
-        private final int[] cells;
+        private int[] cells;
 
         Row(int length, int first) {
             cells = new int[Math.max(0, length)];
@@ -327,6 +327,12 @@ public final class FoulRights {
 
         void add(int i, int more) {
             put(i, at(i) + more);
+        }
+
+        void widen(int length) {
+            if (length > cells.length) {
+                cells = Arrays.copyOf(cells, length);
+            }
         }
 
         /** Puts a value at a place among the first ones and moves those behind it up. */
@@ -440,16 +446,17 @@ public final class FoulRights {
     }
 
     private static final class Permits {
-        private final Row state = new Row(MOST_PERMITS, HELD);
-        private final Row holder = new Row(MOST_PERMITS, HOUSE);
-        private final Row cameIn = new Row(MOST_PERMITS, 0);
-        private final Row usedIn = new Row(MOST_PERMITS, NONE);
-        private final Row project = new Row(MOST_PERMITS, NONE);
-        private final Row moves = new Row(MOST_PERMITS, 0);
+        private final Row state = new Row(0, HELD);
+        private final Row holder = new Row(0, HOUSE);
+        private final Row cameIn = new Row(0, 0);
+        private final Row usedIn = new Row(0, NONE);
+        private final Row project = new Row(0, NONE);
+        private final Row moves = new Row(0, 0);
         // Both by holder, the HOUSE first: how many it holds, and a number below which it holds none;
         // without the second each search for the least number would start at 0 again.
         private final Row held = new Row(MOST_WORKS + 1, 0);
         private final Row searched = new Row(MOST_WORKS + 1, 0);
+        private int room;
         private int came;
         private int used;
         private int cancelled;
@@ -462,13 +469,31 @@ public final class FoulRights {
         }
 
         void come(int n, int to, int year, int ofProject) {
+            makeRoom(came + n);
             for (int i = 0; i < n; i++) {
+                state.put(came, HELD);
                 holder.put(came, to);
                 cameIn.put(came, year);
+                usedIn.put(came, NONE);
                 project.put(came, ofProject);
+                moves.put(came, 0);
                 came++;
             }
             held.add(to + 1, n);
+        }
+
+        // All 4000 at once would make a new object dear; twice as many each time keeps the copies few.
+        private void makeRoom(int needed) {
+            if (needed <= room) {
+                return;
+            }
+            room = Math.min(MOST_PERMITS, Math.max(needed, 2 * room));
+            state.widen(room);
+            holder.widen(room);
+            cameIn.widen(room);
+            usedIn.widen(room);
+            project.widen(room);
+            moves.widen(room);
         }
 
         void pass(int from, int to, int n) {
