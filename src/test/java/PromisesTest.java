@@ -296,6 +296,16 @@ public final class PromisesTest {
         z.issue();
         due("7 where most was cut off", z.told(2, 2), 1);
         due("7 and nowhere else", z.count(3), 1);
+
+        FoulRights one = withWorks(2);
+        one.rule(0, 5000, share(60, 0, 0));
+        one.end();
+        readAll(one, 0, 0, 0);
+        readAll(one, 1, 0, 0);
+        one.meter(1, 0, 2, 1);
+        due("7 one tonne in all", one.issue(), 5);
+        due("7 all that is given goes to one", one.told(1, 2), 3);
+        due("7 no more came", one.count(2), 5);
     }
 
     private static void bid() {
