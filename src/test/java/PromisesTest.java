@@ -46,30 +46,6 @@ public final class PromisesTest {
         CHECKS.due(call, got, want);
     }
 
-    private static FoulRights withWorks(int n) {
-        FoulRights x = new FoulRights();
-        for (int i = 0; i < n; i++) {
-            x.works();
-        }
-        return x;
-    }
-
-    private static int share(int share, int fine, int floor) {
-        return share * 100000 + fine * 100 + floor;
-    }
-
-    private static void readAll(FoulRights x, int works, int year, int reading) {
-        for (int q = 0; q < 4; q++) {
-            x.meter(works, year, q, reading);
-        }
-    }
-
-    private static void endYears(FoulRights x, int n) {
-        for (int i = 0; i < n; i++) {
-            x.end();
-        }
-    }
-
     private static void newObject() {
         FoulRights x = new FoulRights();
         for (int what = 0; what <= 10; what++) {
@@ -106,7 +82,7 @@ public final class PromisesTest {
         due("3 fall 101", x.rule(0, 101, 0), false);
         due("3 fall 999", x.rule(0, 400999, 0), false);
         due("3 what -1", x.rule(0, -1, 0), false);
-        due("3 share 101", x.rule(0, 0, share(101, 0, 0)), false);
+        due("3 share 101", x.rule(0, 0, Steps.share(101, 0, 0)), false);
         due("3 share -1", x.rule(0, 0, -1), false);
         for (int strange : STRANGE) {
             due("3 strange year", x.rule(strange, 0, 0), false);
@@ -114,7 +90,7 @@ public final class PromisesTest {
         }
         due("3 least share", x.rule(0, 0, Integer.MIN_VALUE), false);
         due("3 greatest share", x.rule(0, 0, Integer.MAX_VALUE), false);
-        due("3 all at their greatest", x.rule(19, 400100, share(100, 999, 99)), true);
+        due("3 all at their greatest", x.rule(19, 400100, Steps.share(100, 999, 99)), true);
         due("3 all at their least", x.rule(0, 0, 0), true);
         for (int i = 2; i < 30; i++) {
             due("3 rule " + i, x.rule(5, i * 1000, 0), true);
@@ -129,7 +105,7 @@ public final class PromisesTest {
 
     private static void ruled() {
         FoulRights x = new FoulRights();
-        x.rule(3, 101007, share(41, 502, 63));
+        x.rule(3, 101007, Steps.share(41, 502, 63));
         due("4 ahead of the rule", x.ruled(2, 0), 0);
         due("4 cap", x.ruled(3, 0), 101);
         due("4 share", x.ruled(3, 1), 41);
@@ -140,8 +116,8 @@ public final class PromisesTest {
             due("4 cap in " + (3 + i), x.ruled(3 + i, 0), caps[i]);
             due("4 share in " + (3 + i), x.ruled(3 + i, 1), 41);
         }
-        x.rule(10, 300000, share(1, 2, 3));
-        x.rule(3, 50100, share(4, 5, 6));
+        x.rule(10, 300000, Steps.share(1, 2, 3));
+        x.rule(3, 50100, Steps.share(4, 5, 6));
         due("4 of like years the latest", x.ruled(3, 0), 50);
         due("4 a fall of 100", x.ruled(4, 0), 0);
         due("4 till the next", x.ruled(9, 3), 6);
@@ -158,7 +134,7 @@ public final class PromisesTest {
     }
 
     private static void meter() {
-        FoulRights x = withWorks(2);
+        FoulRights x = Steps.withWorks(2);
         due("5 reading 0", x.meter(0, 0, 0, 0), true);
         due("5 reading 99", x.meter(0, 0, 3, 99), true);
         due("5 reading 100", x.meter(0, 0, 0, 100), false);
@@ -188,7 +164,7 @@ public final class PromisesTest {
     }
 
     private static void fouled() {
-        FoulRights x = withWorks(3);
+        FoulRights x = Steps.withWorks(3);
         due("6 only gaps", x.fouled(1, 0), 40);
         x.meter(1, 0, 2, 0);
         due("6 a gap is 1 at least", x.fouled(1, 0), 3);
@@ -206,8 +182,8 @@ public final class PromisesTest {
         x.meter(1, 1, 0, 2);
         due("6 the year ahead counts", x.fouled(1, 1), 2 + 3 * 11);
         due("6 a later year does not", x.fouled(1, 0), 20);
-        endYears(x, 18);
-        readAll(x, 0, 19, 99);
+        Steps.endYears(x, 18);
+        Steps.readAll(x, 0, 19, 99);
         due("6 year 0 looks at no other works", x.fouled(1, 0), 20);
         x.meter(1, 0, 0, -1);
         due("6 nor for a gap", x.fouled(1, 0), 8 + 7 + 3 + 0);
@@ -222,20 +198,20 @@ public final class PromisesTest {
     }
 
     private static void issue() {
-        FoulRights x = withWorks(1);
-        x.rule(0, 400000, share(100, 0, 0));
+        FoulRights x = Steps.withWorks(1);
+        x.rule(0, 400000, Steps.share(100, 0, 0));
         due("7 in year 0", x.issue(), 400);
         due("7 none is given in year 0", x.count(4), 400);
         due("7 once a year", x.issue(), -1);
         due("7 once a year", x.count(2), 400);
-        readAll(x, 0, 0, 0);
+        Steps.readAll(x, 0, 0, 0);
         x.end();
         due("7 nothing fouled", x.issue(), 400);
         due("7 none is given", x.count(4), 800);
         x.end();
         due("7 all is given", x.issue(), 400);
         due("7 to the only works", x.told(0, 2), 400);
-        endYears(x, 1);
+        Steps.endYears(x, 1);
         for (int i = 3; i < 10; i++) {
             due("7 year " + i, x.issue(), 400);
             x.end();
@@ -245,7 +221,7 @@ public final class PromisesTest {
         x.rule(10, 0, 0);
         due("7 none is not more", x.issue(), 0);
         due("7 but once a year", x.issue(), -1);
-        endYears(x, 10);
+        Steps.endYears(x, 10);
         due("7 now 20", x.count(0), 20);
         due("7 now 20", x.issue(), -1);
         FoulRights noRule = new FoulRights();
@@ -255,13 +231,13 @@ public final class PromisesTest {
     }
 
     private static void issueByWhatWasFouled() {
-        FoulRights x = withWorks(4);
-        x.rule(0, 33010, share(67, 0, 0));
+        FoulRights x = Steps.withWorks(4);
+        x.rule(0, 33010, Steps.share(67, 0, 0));
         x.end();
-        readAll(x, 0, 0, 1);
-        readAll(x, 1, 0, 5);
-        readAll(x, 2, 0, 1);
-        readAll(x, 3, 0, 0);
+        Steps.readAll(x, 0, 0, 1);
+        Steps.readAll(x, 1, 0, 5);
+        Steps.readAll(x, 2, 0, 1);
+        Steps.readAll(x, 3, 0, 0);
         due("7 cap of the year", x.issue(), 30);
         due("7 20 of 30, 4 by 28", x.told(0, 2), 3);
         due("7 20 by 28", x.told(1, 2), 14);
@@ -276,32 +252,32 @@ public final class PromisesTest {
         due("7 the house last", x.permit(20, 1), -1);
         due("7 their year", x.permit(20, 2), 1);
 
-        FoulRights y = withWorks(3);
-        y.rule(0, 5000, share(100, 0, 0));
+        FoulRights y = Steps.withWorks(3);
+        y.rule(0, 5000, Steps.share(100, 0, 0));
         y.end();
-        readAll(y, 0, 0, 3);
-        readAll(y, 1, 0, 3);
-        readAll(y, 2, 0, 4);
+        Steps.readAll(y, 0, 0, 3);
+        Steps.readAll(y, 1, 0, 3);
+        Steps.readAll(y, 2, 0, 4);
         due("7 three cut off", y.issue(), 5);
         due("7 of like ones the lesser number", y.told(0, 2), 2);
         due("7 the next gets none", y.told(1, 2), 1);
         due("7 nothing was cut off", y.told(2, 2), 2);
 
-        FoulRights z = withWorks(3);
-        z.rule(0, 1000, share(100, 0, 0));
+        FoulRights z = Steps.withWorks(3);
+        z.rule(0, 1000, Steps.share(100, 0, 0));
         z.end();
-        readAll(z, 0, 0, 1);
-        readAll(z, 1, 0, 1);
-        readAll(z, 2, 0, 2);
+        Steps.readAll(z, 0, 0, 1);
+        Steps.readAll(z, 1, 0, 1);
+        Steps.readAll(z, 2, 0, 2);
         z.issue();
         due("7 where most was cut off", z.told(2, 2), 1);
         due("7 and nowhere else", z.count(3), 1);
 
-        FoulRights one = withWorks(2);
-        one.rule(0, 5000, share(60, 0, 0));
+        FoulRights one = Steps.withWorks(2);
+        one.rule(0, 5000, Steps.share(60, 0, 0));
         one.end();
-        readAll(one, 0, 0, 0);
-        readAll(one, 1, 0, 0);
+        Steps.readAll(one, 0, 0, 0);
+        Steps.readAll(one, 1, 0, 0);
         one.meter(1, 0, 2, 1);
         due("7 one tonne in all", one.issue(), 5);
         due("7 all that is given goes to one", one.told(1, 2), 3);
@@ -309,7 +285,7 @@ public final class PromisesTest {
     }
 
     private static void bid() {
-        FoulRights x = withWorks(1);
+        FoulRights x = Steps.withWorks(1);
         due("8 n 0", x.bid(0, 0, 1), -1);
         due("8 n 401", x.bid(0, 401, 1), -1);
         due("8 price -1", x.bid(0, 1, -1), -1);
@@ -334,11 +310,11 @@ public final class PromisesTest {
     }
 
     private static void auction() {
-        FoulRights x = withWorks(2);
+        FoulRights x = Steps.withWorks(2);
         x.bid(0, 3, 50);
         due("9 the house holds none", x.auction(), -1);
         due("9 bids stay", x.count(7), 1);
-        x.rule(0, 10000, share(0, 0, 7));
+        x.rule(0, 10000, Steps.share(0, 0, 7));
         x.issue();
         x.bid(1, 4, 7);
         x.bid(1, 4, 6);
@@ -361,7 +337,7 @@ public final class PromisesTest {
     }
 
     private static void auctionOrder() {
-        FoulRights x = withWorks(3);
+        FoulRights x = Steps.withWorks(3);
         x.rule(0, 6000, 0);
         x.issue();
         x.bid(0, 2, 5);
@@ -379,7 +355,7 @@ public final class PromisesTest {
     }
 
     private static void trade() {
-        FoulRights x = withWorks(3);
+        FoulRights x = Steps.withWorks(3);
         x.offset(0, 5);
         due("10 trade", x.trade(0, 1, 2, 100000), true);
         due("10 it gets coins", x.told(0, 0), 100000);
@@ -415,7 +391,7 @@ public final class PromisesTest {
     }
 
     private static void offset() {
-        FoulRights x = withWorks(2);
+        FoulRights x = Steps.withWorks(2);
         due("11 n 0", x.offset(0, 0), -1);
         due("11 n 101", x.offset(0, 101), -1);
         due("11 works 2", x.offset(2, 1), -1);
@@ -434,7 +410,7 @@ public final class PromisesTest {
         due("11 a 21st", x.offset(0, 1), -1);
         due("11 permits", x.count(2), 119);
 
-        FoulRights full = withWorks(1);
+        FoulRights full = Steps.withWorks(1);
         full.rule(0, 390000, 0);
         for (int i = 0; i < 10; i++) {
             full.issue();
@@ -445,8 +421,8 @@ public final class PromisesTest {
         due("11 4000", full.count(2), 4000);
         due("11 the last one", full.permit(3999, 4), 0);
 
-        FoulRights late = withWorks(1);
-        endYears(late, 19);
+        FoulRights late = Steps.withWorks(1);
+        Steps.endYears(late, 19);
         due("11 in year 19", late.offset(0, 1), 0);
         due("11 its year", late.permit(0, 2), 19);
         late.end();
@@ -454,10 +430,10 @@ public final class PromisesTest {
     }
 
     private static void falses() {
-        FoulRights x = withWorks(3);
-        readAll(x, 0, 0, 1);
-        readAll(x, 1, 0, 0);
-        readAll(x, 2, 0, 0);
+        FoulRights x = Steps.withWorks(3);
+        Steps.readAll(x, 0, 0, 1);
+        Steps.readAll(x, 1, 0, 0);
+        Steps.readAll(x, 2, 0, 0);
         x.offset(0, 10);
         x.offset(0, 3);
         x.cancel(0, 1);
@@ -488,7 +464,7 @@ public final class PromisesTest {
     }
 
     private static void cancel() {
-        FoulRights x = withWorks(2);
+        FoulRights x = Steps.withWorks(2);
         x.offset(0, 4);
         due("13 n 0", x.cancel(0, 0), false);
         due("13 n -1", x.cancel(0, -1), false);
@@ -512,12 +488,12 @@ public final class PromisesTest {
     }
 
     private static void end() {
-        FoulRights x = withWorks(3);
-        x.rule(0, 0, share(0, 3, 0));
-        x.rule(1, 0, share(0, 10, 0));
-        readAll(x, 0, 0, 1);
-        readAll(x, 1, 0, 2);
-        readAll(x, 2, 0, 5);
+        FoulRights x = Steps.withWorks(3);
+        x.rule(0, 0, Steps.share(0, 3, 0));
+        x.rule(1, 0, Steps.share(0, 10, 0));
+        Steps.readAll(x, 0, 0, 1);
+        Steps.readAll(x, 1, 0, 2);
+        Steps.readAll(x, 2, 0, 5);
         x.offset(0, 4);
         x.offset(1, 10);
         x.offset(2, 7);
@@ -533,21 +509,21 @@ public final class PromisesTest {
         due("14 debt", x.told(2, 1), 13);
         due("14 the year's fine", x.told(2, 0), -39);
         due("14 fines", x.told(2, 4), 39);
-        readAll(x, 0, 1, 0);
-        readAll(x, 1, 1, 0);
-        readAll(x, 2, 1, 1);
+        Steps.readAll(x, 0, 1, 0);
+        Steps.readAll(x, 1, 1, 0);
+        Steps.readAll(x, 2, 1, 1);
         x.offset(2, 10);
         due("14 debt is needed, too", x.end(), 7);
         due("14 debt", x.told(2, 1), 7);
         due("14 coins", x.told(2, 0), -39 - 70);
         due("14 all fines", x.count(9), 109);
         due("14 the year it was used in", x.permit(21, 3), 1);
-        readAll(x, 2, 2, 0);
+        Steps.readAll(x, 2, 2, 0);
         x.trade(1, 2, 2, 0);
         x.offset(2, 5);
         due("14 others lack", x.end(), 8);
         due("14 paid off", x.told(2, 1), 0);
-        endYears(x, 17);
+        Steps.endYears(x, 17);
         due("14 now 20", x.count(0), 20);
         due("14 now 20", x.end(), -1);
         due("14 it stays", x.count(0), 20);
@@ -556,7 +532,7 @@ public final class PromisesTest {
     }
 
     private static void permit() {
-        FoulRights x = withWorks(2);
+        FoulRights x = Steps.withWorks(2);
         x.rule(0, 3000, 0);
         x.end();
         x.issue();
@@ -594,8 +570,8 @@ public final class PromisesTest {
     }
 
     private static void told() {
-        FoulRights x = withWorks(2);
-        x.rule(0, 0, share(0, 2, 0));
+        FoulRights x = Steps.withWorks(2);
+        x.rule(0, 0, Steps.share(0, 2, 0));
         x.offset(1, 30);
         for (int what = 0; what <= 4; what++) {
             due("16 at first", x.told(0, what), 0);
@@ -627,7 +603,7 @@ public final class PromisesTest {
     }
 
     private static void cut() {
-        FoulRights x = withWorks(2);
+        FoulRights x = Steps.withWorks(2);
         due("17 tonnes 0", x.cut(0, 0, 1), -1);
         due("17 tonnes 100", x.cut(0, 100, 1), -1);
         due("17 cost -1", x.cut(0, 1, -1), -1);
@@ -650,7 +626,7 @@ public final class PromisesTest {
     }
 
     private static void least() {
-        FoulRights x = withWorks(10);
+        FoulRights x = Steps.withWorks(10);
         due("18 nothing", x.least(0), 0);
         due("18 no cuts", x.least(1), -1);
         for (int w = 9; w >= 0; w--) {
@@ -668,7 +644,7 @@ public final class PromisesTest {
     }
 
     private static void margin() {
-        FoulRights x = withWorks(2);
+        FoulRights x = Steps.withWorks(2);
         due("19 nothing", x.margin(0), 0);
         due("19 no cuts", x.margin(1), -1);
         x.cut(1, 5, 8);
@@ -685,7 +661,7 @@ public final class PromisesTest {
     }
 
     private static void cuts() {
-        FoulRights x = withWorks(3);
+        FoulRights x = Steps.withWorks(3);
         x.cut(2, 5, 4);
         x.cut(0, 5, 4);
         x.cut(1, 5, 4);
@@ -711,8 +687,8 @@ public final class PromisesTest {
     }
 
     private static void count() {
-        FoulRights x = withWorks(2);
-        x.rule(0, 60000, share(0, 2, 1));
+        FoulRights x = Steps.withWorks(2);
+        x.rule(0, 60000, Steps.share(0, 2, 1));
         x.issue();
         x.bid(0, 50, 3);
         x.auction();
@@ -733,8 +709,8 @@ public final class PromisesTest {
     }
 
     private static void refusedChangesNothing() {
-        FoulRights x = withWorks(2);
-        x.rule(0, 9050, share(50, 2, 1));
+        FoulRights x = Steps.withWorks(2);
+        x.rule(0, 9050, Steps.share(50, 2, 1));
         x.offset(0, 5);
         x.bid(1, 2, 3);
         x.cut(0, 3, 4);
@@ -773,10 +749,10 @@ public final class PromisesTest {
     }
 
     private static void behindTheLastYear() {
-        FoulRights x = withWorks(2);
-        x.rule(0, 10000, share(0, 5, 4));
+        FoulRights x = Steps.withWorks(2);
+        x.rule(0, 10000, Steps.share(0, 5, 4));
         x.issue();
-        endYears(x, 20);
+        Steps.endYears(x, 20);
         due("now 20: bid", x.bid(0, 3, 9), 1);
         due("now 20: the last rule's floor", x.auction(), 4);
         due("now 20: trade", x.trade(0, 1, 1, 1), true);
@@ -789,11 +765,11 @@ public final class PromisesTest {
     }
 
     private static void lastRuleAndProject() {
-        FoulRights x = withWorks(1);
+        FoulRights x = Steps.withWorks(1);
         for (int i = 0; i < 29; i++) {
             x.rule(0, 0, 0);
         }
-        due("the 30th rule", x.rule(0, 200010, share(11, 12, 13)), true);
+        due("the 30th rule", x.rule(0, 200010, Steps.share(11, 12, 13)), true);
         int[] want = {200, 11, 12, 13};
         for (int what = 0; what < 4; what++) {
             due("the 30th rule " + what, x.ruled(0, what), want[what]);
@@ -809,7 +785,7 @@ public final class PromisesTest {
     }
 
     private static void lastBid() {
-        FoulRights x = withWorks(10);
+        FoulRights x = Steps.withWorks(10);
         x.rule(0, 400000, 0);
         x.issue();
         for (int i = 0; i < 39; i++) {
@@ -825,7 +801,7 @@ public final class PromisesTest {
     }
 
     private static void lastPermit() {
-        FoulRights x = withWorks(10);
+        FoulRights x = Steps.withWorks(10);
         x.rule(0, 399000, 0);
         for (int i = 0; i < 10; i++) {
             x.issue();
@@ -846,7 +822,7 @@ public final class PromisesTest {
     }
 
     private static void lastCut() {
-        FoulRights x = withWorks(10);
+        FoulRights x = Steps.withWorks(10);
         for (int w = 0; w < 10; w++) {
             for (int i = 0; i < 4; i++) {
                 x.cut(w, 10, 7);
@@ -861,12 +837,12 @@ public final class PromisesTest {
     }
 
     private static void lastWorks() {
-        FoulRights x = withWorks(10);
-        x.rule(0, 100000, share(100, 3, 0));
-        readAll(x, 9, 0, 0);
+        FoulRights x = Steps.withWorks(10);
+        x.rule(0, 100000, Steps.share(100, 3, 0));
+        Steps.readAll(x, 9, 0, 0);
         x.offset(9, 5);
         x.end();
-        readAll(x, 9, 0, 99);
+        Steps.readAll(x, 9, 0, 99);
         x.issue();
         due("the tenth is given the most", x.told(9, 2), 5 + 53);
         due("the tenth's are last", x.permit(104, 1), 9);
