@@ -164,7 +164,7 @@ public final class Promises7To14EdgesTest {
         Past forty = new Past("forty bids", x -> {
             Steps.addWorks(x, 3);
             for (int i = 0; i < 40; i++) {
-                x.bid(i % 3, 1 + i, 20 + i % 7);
+                x.bid(i % 3, 1 + i % 10, 20 + i % 7);
             }
         });
         EDGES.refused("a dearer one", forty, NONE, x -> x.bid(0, 400, 999));
@@ -172,9 +172,9 @@ public final class Promises7To14EdgesTest {
         FoulRights x = forty.object();
         EDGES.due("an auction of nothing makes no room", x.auction(), NONE);
         EDGES.due("a 41st still", x.bid(0, 1, 1), NONE);
-        x.rule(0, Steps.what(400, 0), 0);
+        x.rule(0, Steps.what(60, 0), 0);
         x.issue();
-        EDGES.due("105 at 26, 100 at 25, 135 at 24, the rest at 23", x.auction(), 23);
+        EDGES.due("25 at 26, 30 at 25, the rest at 24", x.auction(), 24);
         EDGES.due("there is room then", x.bid(0, 1, 1), 1);
     }
 
@@ -469,6 +469,24 @@ public final class Promises7To14EdgesTest {
         EDGES.due("none is held", x.count(3), 0);
         FoulRights late = behindTheLastYear(HOLDINGS.object());
         EDGES.due("behind the last year, too", late.cancel(0, 3), true);
+    }
+
+    private static void cancelTakesTheLeastThoughTheyCameLast() {
+        EDGES.of("Promise 13", "A WORKS has n of its PERMITS CANCELLED (of the least numbers): true");
+        FoulRights x = Steps.houseHolds(2, 2, 0);
+        x.offset(0, 1);
+        x.offset(1, 4);
+        x.cancel(1, 1);
+        x.trade(0, 1, 1, 0);
+        x.bid(1, 1, 0);
+        x.auction();
+        x.cancel(1, 1);
+        EDGES.due("one of the house's", x.permit(0, 0), CANCELLED);
+        x.cancel(1, 2);
+        int[] states = {CANCELLED, HELD, CANCELLED, CANCELLED, CANCELLED, HELD, HELD};
+        for (int number = 0; number < 7; number++) {
+            EDGES.due("state of " + number, x.permit(number, 0), states[number]);
+        }
     }
 
     private static void cancelOfNoWorksIsRefused() {

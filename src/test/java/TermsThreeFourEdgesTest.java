@@ -88,6 +88,26 @@ public final class TermsThreeFourEdgesTest {
         EDGES.due("the rest is held", x.told(1, 2), 2);
     }
 
+    private static void usedAreTheLeastThoughTheyCameLast() {
+        EDGES.of("Terms", "it USES as many PERMITS that it HOLDS (of the least numbers)");
+        FoulRights x = Steps.withWorks(2);
+        x.offset(0, 2);
+        x.offset(1, 4);
+        Steps.readAll(x, 0, 0, 0);
+        Steps.readAll(x, 1, 0, 0);
+        x.meter(1, 0, 0, 1);
+        x.end();
+        x.trade(0, 1, 1, 0);
+        Steps.readAll(x, 0, 1, 0);
+        Steps.readAll(x, 1, 1, 0);
+        x.meter(1, 1, 3, 2);
+        x.end();
+        int[] years = {1, NONE, 0, 1, NONE, NONE};
+        for (int number = 0; number < 6; number++) {
+            EDGES.due("the year of " + number, x.permit(number, 3), years[number]);
+        }
+    }
+
     private static void usedOnesAreNotUsedAgain() {
         EDGES.of("Terms", "it USES as many PERMITS that it HOLDS (of the least numbers)");
         FoulRights x = Steps.houseHolds(1, 30, 0);

@@ -161,6 +161,17 @@ public final class TermsTwoEdgesTest {
         }
     }
 
+    private static void theCapAndTheShareAreThoseOfNow() {
+        EDGES.of("Terms", "first CAP times SHARE by 100 (cut) are GIVEN");
+        FoulRights x = Steps.withWorks(1);
+        x.rule(0, Steps.what(100, 0), Steps.share(10, 0, 0));
+        x.rule(1, Steps.what(10, 0), Steps.share(70, 0, 0));
+        x.rule(2, Steps.what(50, 0), Steps.share(20, 0, 0));
+        x.end();
+        EDGES.due("the cap of year 1", x.issue(), 10);
+        dueHeld("70 of 100 of 10", x, 7);
+    }
+
     private static void permitsAreGivenByTheYearAhead() {
         EDGES.of("Terms", "by what WORKS FOULED in the YEAR ahead");
         FoulRights x = Steps.withWorks(3);
@@ -267,6 +278,12 @@ public final class TermsTwoEdgesTest {
         first.issue();
         dueHeld("0.1 each", first, 1, 0, 0, 0, 0, 0, 0, 0, 0, 0);
         EDGES.due("no more than are to be given", first.count(2), 1);
+        FoulRights greater = toGive(2, 3, 1);
+        greater.issue();
+        dueHeld("1.5 and 0.5", greater, 2, 0);
+        FoulRights lesser = toGive(2, 1, 3);
+        lesser.issue();
+        dueHeld("0.5 and 1.5", lesser, 1, 1);
         FoulRights last = toGive(3, 4, 3, 3, 4);
         last.issue();
         dueHeld("0.86, 0.64, 0.64 and 0.86", last, 1, 1, 0, 1);
@@ -497,6 +514,21 @@ public final class TermsTwoEdgesTest {
         for (int works = 0; works < 3; works++) {
             EDGES.due("coins for all of them together", x.told(works, 0), coins[works]);
         }
+    }
+
+    private static void tradedAreTheLeastThoughTheyCameLast() {
+        EDGES.of("Terms", "TRADED: n PERMITS that one HOLDS (of the least numbers) go to another one, for COINS.");
+        FoulRights x = Steps.withWorks(3);
+        x.offset(0, 2);
+        x.offset(1, 4);
+        x.trade(1, 2, 1, 0);
+        dueHolders("the least of four", x, 0, 0, 0, 2, 1, 1, 1);
+        x.trade(0, 1, 1, 0);
+        x.trade(1, 2, 1, 0);
+        dueHolders("one that came behind greater ones", x, 0, 2, 0, 2, 1, 1, 1);
+        x.trade(2, 1, 2, 0);
+        x.trade(1, 0, 3, 0);
+        dueHolders("two that came back, and one more", x, 0, 0, 0, 0, 0, 1, 1);
     }
 
     private static void usedAndCancelledOnesAreNotTraded() {
